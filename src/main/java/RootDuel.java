@@ -267,7 +267,7 @@ public final class RootDuel {
         int found = NONE;
         int greatest = 0;
         trial.copyFrom(contest);
-        for (int power = 0; power < contest.settings[POWERS]; power++) {
+        for (int power = 0; power < contest.settings[POWERS] && power < MOST_POWERS; power++) {
             for (int coefficient = -MOST_LAID; coefficient <= MOST_LAID; coefficient++) {
                 if (coefficient == 0 || contest.refusalOfTerm(coefficient, power) != 0) {
                     continue;
@@ -961,7 +961,6 @@ public final class RootDuel {
             System.arraycopy(rows[total - 2], 0, work, 0, MOST_POWERS);
             for (int top = high; top >= low && top < MOST_POWERS && low >= 0; top--) {
                 cancel(top, divisor, low);
-                reduce();
             }
             for (int i = 0; i < MOST_POWERS; i++) {
                 work[i] = -work[i];
@@ -1444,13 +1443,14 @@ public final class RootDuel {
             }
         }
 
+        /** Puts a number of the contest: it has two digits at most. */
         private void putNumber(int number) {
             if (number < 0) {
                 putSign('-');
             }
             int rest = Math.abs(number);
             if (rest >= 10) {
-                putSign((char) ('0' + rest / 10 % 10));
+                putSign((char) ('0' + rest / 10));
             }
             putSign((char) ('0' + rest % 10));
         }

@@ -42,6 +42,8 @@ public final class OutputTest {
         polynomial("30x^4-30x^3+2x^2-2x+30", 30, -2, 2, -30, 30);
         polynomial("-30x^4+10", 10, 0, 0, 0, -30);
         polynomial("x", 0, 1);
+        polynomial("x+1", 1, 1);
+        polynomial("5x+20", 20, 5);
         polynomial("-x", 0, -1);
         polynomial("1", 1);
         polynomial("-1", -1);
@@ -124,5 +126,12 @@ public final class OutputTest {
         Due.isText("turns", Due.turnsOf(duel), want.toString());
         Due.is("output(0)", duel.output(0), 'c');
         Due.is("count(7)", duel.count(7), 60);
+        Due.is("power(2, 0) at the end", duel.power(2, 0), 5);
+        Due.is("undo of the last turn", duel.undo(), 11);
+        want.setLength(want.length() - "lay 5 2;".length());
+        Due.isText("turns behind undo", Due.turnsOf(duel), want.toString());
+        Due.is("count(9)", duel.count(9), 0);
+        Due.is("power(2, 0)", duel.power(2, 0), 0);
+        Due.is("power(2, 3)", duel.power(2, 3), 57);
     }
 }

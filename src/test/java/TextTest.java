@@ -126,6 +126,10 @@ public final class TextTest {
         setupError("bars 1;", 1, 0);
         setupError("ba 1;", 1, 0);
         setupError("barturns 1;", 1, 0);
+        setupError("far 1;", 1, 0);
+        setupError("barz 1;", 1, 0);
+        setupError("bara 1;", 1, 0);
+        setupError("bar 1z;", 1, 5);
         setupError("lay 1 1;", 1, 0);
         setupError("5;", 1, 0);
         setupError("start", 1, 5);
@@ -235,6 +239,12 @@ public final class TextTest {
         scriptError("lay", 1, 3);
         scriptError("pass", 1, 4);
         scriptError("pass 1;", 1, 5);
+        scriptError("mass;", 1, 0);
+        scriptError("passz;", 1, 0);
+        scriptError("pass`;", 1, 4);
+        scriptError("pass{;", 1, 4);
+        scriptError("lay 1 1/;", 1, 7);
+        scriptError("lay 1 1:;", 1, 7);
         scriptError("start 1 1;", 1, 0);
         scriptError("claim 0 1 1 1;", 1, 6);
         scriptError("claim most 0 1 1 1;", 1, 6);
