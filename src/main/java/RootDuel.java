@@ -180,7 +180,7 @@ public final class RootDuel {
         if (what < 0 || what > 6) {
             throw new IllegalArgumentException();
         }
-        if (index >= contest.claimCount[player]) {
+        if (index >= contest.claimsOf(player)) {
             return NONE;
         }
         if (what == 5) {
@@ -203,7 +203,7 @@ public final class RootDuel {
             case 1: return contest.signPoints(player);
             case 2: return contest.claimPoints(player, signRows);
             case 3: return contest.bonusPoints(player);
-            case 4: return contest.claimCount[player];
+            case 4: return contest.claimsOf(player);
             case 5: return contest.stakes(player);
             case 6: return contest.rightClaims(player, signRows);
             default: return contest.termsOf(player);
@@ -267,7 +267,7 @@ public final class RootDuel {
         int found = NONE;
         int greatest = 0;
         trial.copyFrom(contest);
-        for (int power = 0; power < contest.settings[POWERS] && power < MOST_POWERS; power++) {
+        for (int power = 0; power < contest.settings[POWERS]; power++) {
             for (int coefficient = -MOST_LAID; coefficient <= MOST_LAID; coefficient++) {
                 if (coefficient == 0 || contest.refusalOfTerm(coefficient, power) != 0) {
                     continue;
@@ -398,7 +398,7 @@ public final class RootDuel {
         if (row < 0 || row >= signRows.total) {
             throw new IndexOutOfBoundsException();
         }
-        return signRows.degrees[row];
+        return signRows.degreeOf(row);
     }
 
     public int rowSign(int row, int x) throws IndexOutOfBoundsException, IllegalArgumentException {
@@ -547,6 +547,9 @@ public final class RootDuel {
 
     /** The score of the player whose turn it is less that of the other one behind a term; trial is as contest. */
     private int leadBehind(int coefficient, int power) {
+        if (!contest.hasPower(power)) {
+            return 0;
+        }
         int mover = contest.mover();
         trial.polynomial[power] = contest.polynomial[power] + coefficient;
         buildRows(trial.polynomial);
@@ -748,8 +751,9 @@ public final class RootDuel {
 
         /** Takes back the latest act: ahead of an act, the contest was never over. */
         void takeBackAct() {
-            if (hasClaimNow()) {
-                claimCount[mover()]--;
+            int player = mover();
+            if (isPlayer(player) && hasClaimNow()) {
+                claimCount[player]--;
                 return;
             }
             if (turns <= 0 || turns > MOST_TURNS) {
@@ -771,16 +775,20 @@ public final class RootDuel {
             return at >= 0 && at < claims.length ? claims[at] : NONE;
         }
 
+        int claimsOf(int player) {
+            return isPlayer(player) ? claimCount[player] : 0;
+        }
+
         /** Whether the player whose turn it is has made a claim in it. */
         boolean hasClaimNow() {
             int player = mover();
-            int made = player < 0 || player >= PLAYERS ? 0 : claimCount[player];
+            int made = claimsOf(player);
             return made > 0 && claimField(player, made - 1, MADE_IN) == turns;
         }
 
         int stakes(int player) {
             int sum = 0;
-            for (int index = 0; index < claimCount[player]; index++) {
+            for (int index = 0; index < claimsOf(player); index++) {
                 sum += claimField(player, index, STAKE);
             }
             return sum;
@@ -794,7 +802,7 @@ public final class RootDuel {
             if (hasClaimNow()) {
                 return 2;
             }
-            if (claimCount[player] >= MOST_CLAIMS) {
+            if (claimsOf(player) >= MOST_CLAIMS) {
                 return 3;
             }
             if (overlaps(player, a, b)) {
@@ -804,7 +812,7 @@ public final class RootDuel {
         }
 
         private boolean overlaps(int player, int a, int b) {
-            for (int index = 0; index < claimCount[player]; index++) {
+            for (int index = 0; index < claimsOf(player); index++) {
                 int from = Math.max(a, claimField(player, index, FROM));
                 int to = Math.min(b, claimField(player, index, TO));
                 if (from < to) {
@@ -816,8 +824,8 @@ public final class RootDuel {
 
         void addClaim(int a, int b, int roots, int least, int stake) {
             int player = mover();
-            int at = (player * MOST_CLAIMS + claimCount[player]) * CLAIM_FIELDS;
-            if (at < 0 || at + CLAIM_FIELDS > claims.length) {
+            int at = (player * MOST_CLAIMS + claimsOf(player)) * CLAIM_FIELDS;
+            if (!isPlayer(player) || at < 0 || at + CLAIM_FIELDS > claims.length) {
                 return;
             }
             claims[at + FROM] = a;
@@ -844,7 +852,7 @@ public final class RootDuel {
 
         int rightClaims(int player, SignRows rows) {
             int right = 0;
-            for (int index = 0; index < claimCount[player]; index++) {
+            for (int index = 0; index < claimsOf(player); index++) {
                 if (isRight(player, index, rows)) {
                     right++;
                 }
@@ -854,7 +862,7 @@ public final class RootDuel {
 
         int claimPoints(int player, SignRows rows) {
             int points = 0;
-            for (int index = 0; index < claimCount[player]; index++) {
+            for (int index = 0; index < claimsOf(player); index++) {
                 int stake = claimField(player, index, STAKE);
                 points += isRight(player, index, rows) ? stake : -stake;
             }
@@ -957,9 +965,8 @@ public final class RootDuel {
             }
             long[] divisor = rows[total - 1];
             int low = degrees[total - 1];
-            int high = degrees[total - 2];
             System.arraycopy(rows[total - 2], 0, work, 0, MOST_POWERS);
-            for (int top = high; top >= low && top < MOST_POWERS && low >= 0; top--) {
+            for (int top = degrees[total - 2]; top >= low; top--) {
                 cancel(top, divisor, low);
             }
             for (int i = 0; i < MOST_POWERS; i++) {
@@ -969,6 +976,9 @@ public final class RootDuel {
 
         /** Takes the top power out of the work row, which is stretched by the size of the leading coefficient. */
         private void cancel(int top, long[] divisor, int low) {
+            if (low < 0 || low > top || top >= MOST_POWERS || top >= divisor.length) {
+                return;
+            }
             long size = Math.abs(divisor[low]);
             long factor = divisor[low] > 0 ? work[top] : -work[top];
             work[top] = 0;
@@ -1014,6 +1024,11 @@ public final class RootDuel {
             }
         }
 
+        /** The degree of a row; NONE if there is no such row. */
+        int degreeOf(int row) {
+            return row >= 0 && row < total && row < MOST_POWERS ? degrees[row] : NONE;
+        }
+
         int signAt(int row, int x) {
             if (row < 0 || row >= MOST_POWERS) {
                 return 0;
@@ -1047,7 +1062,7 @@ public final class RootDuel {
         int changesAbove(int point, int places) {
             int changes = 0;
             int last = 0;
-            for (int row = 0; row < total && row < MOST_POWERS; row++) {
+            for (int row = 0; row < total; row++) {
                 int sign = signAbove(row, point, places);
                 if (last == -sign) {
                     changes++;
@@ -1059,11 +1074,14 @@ public final class RootDuel {
 
         /** The sign of the first derivative, from the row itself on, that is not 0 at point / 2^places. */
         private int signAbove(int row, int point, int places) {
+            if (row < 0 || row >= MOST_POWERS || degrees[row] < 0 || degrees[row] >= MOST_POWERS) {
+                return 0;
+            }
             int top = degrees[row];
-            for (int i = 0; i <= top && i < MOST_POWERS; i++) {
+            for (int i = 0; i <= top; i++) {
                 work[i] = rows[row][i] << (places * (top - i));
             }
-            for (int low = 0; low <= top && low < MOST_POWERS; low++) {
+            for (int low = 0; low <= top; low++) {
                 for (int i = top - 1; i >= low; i--) {
                     work[i] += point * work[i + 1];
                 }
@@ -1503,10 +1521,7 @@ public final class RootDuel {
         /** The claim that was made in this turn, if there is one. */
         void putClaims(Contest contest, int turn) {
             int player = turn % PLAYERS;
-            if (player < 0) {
-                return;
-            }
-            for (int index = 0; index < contest.claimCount[player]; index++) {
+            for (int index = 0; index < contest.claimsOf(player); index++) {
                 if (contest.claimField(player, index, MADE_IN) == turn) {
                     putClaim(contest, player, index);
                 }

@@ -1,9 +1,55 @@
+import java.lang.reflect.InvocationTargetException;
+import java.lang.reflect.Method;
+import java.util.Arrays;
+import java.util.Comparator;
+
 /** Compares answers with those that are due, and keeps count of the ones that are not. */
 final class Due {
     private static int wrong;
+    private static String test = "";
 
     private Due() {
     }
+
+    // ---- runs
+
+    /** Runs every method of a test class whose name begins with "promise", so that none can be forgotten. */
+    static void all(Class<?> tests) {
+        Method[] methods = tests.getDeclaredMethods();
+        Arrays.sort(methods, Comparator.comparing(Method::getName));
+        int count = 0;
+        for (Method method : methods) {
+            if (method.getName().startsWith("promise")) {
+                count++;
+                run(method);
+            }
+        }
+        is("there are tests", count > 0 ? 1 : 0, 1);
+        end(tests.getName() + " (" + count + " tests)");
+    }
+
+    private static void run(Method method) {
+        test = method.getName() + ": ";
+        method.setAccessible(true);
+        try {
+            method.invoke(null);
+        } catch (InvocationTargetException e) {
+            tell("ended with " + e.getCause());
+        } catch (IllegalAccessException e) {
+            tell("could not be called");
+        }
+        test = "";
+    }
+
+    /** To be called last: fails the test if an answer was wrong. */
+    static void end(String tests) {
+        System.out.println(tests + ": " + (wrong == 0 ? "all answers are as due" : wrong + " answers are wrong"));
+        if (wrong > 0) {
+            System.exit(1);
+        }
+    }
+
+    // ---- answers
 
     static void is(String call, long got, long want) {
         if (got != want) {
@@ -50,15 +96,7 @@ final class Due {
     static void tell(String line) {
         wrong++;
         if (wrong <= 30) {
-            System.out.println(line);
-        }
-    }
-
-    /** To be called last: fails the test if an answer was wrong. */
-    static void end(String test) {
-        System.out.println(test + ": " + (wrong == 0 ? "all answers are as due" : wrong + " answers are wrong"));
-        if (wrong > 0) {
-            System.exit(1);
+            System.out.println(test + line);
         }
     }
 
@@ -89,11 +127,20 @@ final class Due {
         return duel.play();
     }
 
+    /** A contest that begins with this setup. */
     static RootDuel with(String setup) {
         RootDuel duel = new RootDuel();
         if (load(duel, setup) == RootDuel.NONE) {
             tell("the setup " + setup + " has an error at " + duel.errorPosition());
         }
+        return duel;
+    }
+
+    /** A contest with this setup in which all the commands of the script were done. */
+    static RootDuel played(String setup, String script) {
+        RootDuel duel = with(setup);
+        int commands = script.length() - script.replace(";", "").length();
+        is("play of " + script, play(duel, script), commands);
         return duel;
     }
 
@@ -106,6 +153,7 @@ final class Due {
         return with(setup.toString());
     }
 
+    /** The output as it is, read without writing it anew. */
     static String outputOf(RootDuel duel) {
         StringBuilder text = new StringBuilder();
         for (int i = 0; duel.output(i) != RootDuel.NONE; i++) {
@@ -126,5 +174,49 @@ final class Due {
         String text = outputOf(duel);
         is("write()", length, text.length());
         return text;
+    }
+
+    /** All that a saved state holds, as far as it is told; replaces the output. */
+    static String stateOf(RootDuel duel) {
+        StringBuilder state = new StringBuilder();
+        for (int what = 0; what <= 15; what++) {
+            state.append(what == 13 ? 0 : duel.count(what)).append(' ');
+        }
+        for (int power = 0; power < duel.count(0); power++) {
+            for (int what = 0; what <= 4; what++) {
+                state.append(duel.power(power, what)).append(' ');
+            }
+        }
+        for (int player = 0; player <= 1; player++) {
+            for (int what = 0; what <= 7; what++) {
+                state.append(duel.player(player, what)).append(' ');
+            }
+            for (int at = 0; at < 28; at++) {
+                state.append(duel.claimOf(player, at / 7, at % 7)).append(' ');
+            }
+        }
+        return state.append(duel.winner()).append(' ').append(turnsOf(duel)).toString();
+    }
+
+    /** What undo and restore leave as it is: the accounts, the latest error, the output, the text's length. */
+    static String besidesOf(RootDuel duel) {
+        StringBuilder besides = new StringBuilder();
+        for (int what = 0; what <= 8; what++) {
+            besides.append(duel.account(what)).append(' ');
+        }
+        besides.append(duel.errorCode()).append(' ').append(duel.errorPosition()).append(' ');
+        return besides.append(lengthOf(duel)).append(' ').append(outputOf(duel)).toString();
+    }
+
+    /** The length of a text of at most 40 bytes. */
+    static int lengthOf(RootDuel duel) {
+        for (int length = 40; length > 0; length--) {
+            try {
+                return duel.truncateText(length);
+            } catch (IllegalArgumentException e) {
+                // the text is shorter
+            }
+        }
+        return 0;
     }
 }
