@@ -916,7 +916,7 @@ public final class RootDuel {
 
         /** Goes on with the greatest common divisor of the first row and its derivative, which is the last row. */
         private void descend() {
-            if (total > 0) {
+            if (total > 0 && total <= MOST_POWERS) {
                 System.arraycopy(rows[total - 1], 0, work, 0, MOST_POWERS);
                 build();
             }
@@ -1336,6 +1336,9 @@ public final class RootDuel {
         }
 
         private boolean readSetting(Contest draft, int setting) {
+            if (setting < 0 || setting >= SETTINGS) {
+                return fail(1);
+            }
             if (!readNumber(LEAST_SETTINGS[setting], MOST_SETTINGS[setting])) {
                 return false;
             }
