@@ -86,6 +86,26 @@ public final class Promises28To32Test {
         Due.throwsIndex("behind a constant", () -> constant.rowDegree(1));
     }
 
+    private static void promise29DegreeOfEachRow() {
+        RootDuel full = Due.withPolynomial(5, -1, 0, -2, 1);
+        RootDuel falls = Due.withPolynomial(0, 1, 0, 0, 1);
+        int[] degrees = {4, 3, 1, 0};
+        for (int row = 0; row <= 4; row++) {
+            Due.is("x^4-2x^3-x+5: rowDegree(" + row + ")", full.rowDegree(row), 4 - row);
+        }
+        for (int row = 0; row < degrees.length; row++) {
+            Due.is("x^4+x: rowDegree(" + row + ")", falls.rowDegree(row), degrees[row]);
+        }
+        RootDuel line = Due.withPolynomial(-20, 3);
+        Due.is("3x-20", line.rowDegree(0), 1);
+        Due.is("its derivative", line.rowDegree(1), 0);
+        Due.is("the last row of (x-2)^3", Due.withPolynomial(-8, 12, -6, 1).rowDegree(1), 2);
+        RootDuel laid = Due.played("", "lay 1 1;lay 2 3;");
+        Due.is("behind a term", laid.rowDegree(0), 3);
+        laid.undo();
+        Due.is("behind undo", laid.rowDegree(0), 1);
+    }
+
     // ---- promise 30
 
     private static void promise30NoSuchRow() {
